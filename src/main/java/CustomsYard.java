@@ -278,8 +278,9 @@ public final class CustomsYard {
         return why;
     }
 
+    /** The LOAD of this number; null: there is none. */
     private Load find(int load) {
-        return load >= 0 && load < loadCount && load < loads.length ? loads[load] : null;
+        return load >= 0 && load < loads.length ? loads[load] : null;
     }
 
     /** The row of numbers that has a place i; null where the call is refused. */
@@ -305,7 +306,7 @@ public final class CustomsYard {
     }
 
     private int lineFor(Load found) {
-        for (int i = 0; i < lineCount && i < MOST_LINES; i++) {
+        for (int i = 0; i < lineCount; i++) {
             if (found.goesAs(lineViews[i])) {
                 return i;
             }

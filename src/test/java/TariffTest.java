@@ -45,6 +45,8 @@ public final class TariffTest {
         int parcel = yard.load(4, 10), sealed = yard.load(5, 20), letter = yard.load(6, 30), dust = yard.load(1, 4);
         due.answer(yard, "duty without a TARIFF", yard.duty(parcel), 0);
         due.answer(yard, "line without a TARIFF", yard.line(parcel), CustomsYard.NONE);
+        int grains = yard.load(0, 6);
+        due.answer(yard, "line of GRAINS without a TARIFF", yard.line(grains), CustomsYard.NONE);
         yard.tariff(6, 0);
         yard.tariff(13, 3);
         yard.tariff(4, -7);
@@ -56,6 +58,7 @@ public final class TariffTest {
         due.answer(yard, "duty of a SEALED one", yard.duty(sealed), 3 * 1020);
         due.answer(yard, "line of a LETTER", yard.line(letter), 0);
         due.answer(yard, "duty of a LETTER at the rate 0", yard.duty(letter), 0);
+        due.answer(yard, "line of GRAINS", yard.line(grains), CustomsYard.NONE);
         due.answer(yard, "line of DUST", yard.line(dust), CustomsYard.NONE);
         due.answer(yard, "duty of DUST", yard.duty(dust), 0);
         due.is("no CAST was counted", yard.count(1), 0);
