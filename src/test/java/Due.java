@@ -1,11 +1,17 @@
 /** Counts the answers that are not as due, and tells each of them. */
 final class Due {
     private int wrong;
+    private String sentence = "";
+
+    /** The words of the document that the answers from here on are held to, and the heading they stand under. */
+    void says(String heading, String words) {
+        sentence = heading + ", \"" + words + "\": ";
+    }
 
     void is(String call, long got, long want) {
         if (got != want) {
             wrong++;
-            System.out.println(call + " answered " + got + ", due is " + want);
+            System.out.println(sentence + call + " answered " + got + ", due is " + want);
         }
     }
 

@@ -362,10 +362,10 @@ public final class ModelTest {
         }
     }
 
-    private static final String[] NAMES = {"load", "set", "number", "put", "at", "is", "take", "sort", "weight", "inside",
+    static final String[] NAMES = {"load", "set", "number", "put", "at", "is", "take", "sort", "weight", "inside",
         "hold", "bay", "gate", "pass", "passed", "tariff", "duty", "line"};
 
-    private static long call(CustomsYard yard, int which, int a, int b, int c) {
+    static long call(CustomsYard yard, int which, int a, int b, int c) {
         switch (which) {
             case 0: return yard.load(a, b);
             case 1: return yard.set(a, b, c);
