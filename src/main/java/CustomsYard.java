@@ -11,6 +11,7 @@ public final class CustomsYard {
     private static final int MOST_LOADS = 80;
     private static final int MOST_PLACES = 6;
     private static final int MOST_WEIGHT = 1000;
+    private static final int DECLARED_FOR_A_SEAL = 1000;
     private static final int MOST_LINES = 10;
     private static final int MOST_RATE = 100;
     private static final int BAYS = 12;
@@ -419,7 +420,7 @@ public final class CustomsYard {
         }
 
         private int declaration() {
-            return sort == SEALED ? told + 1000 : 2 * told;
+            return sort == SEALED ? told + DECLARED_FOR_A_SEAL : 2 * told;
         }
 
         long weigh(int levels) {
